@@ -1,0 +1,158 @@
+/** The power fails before each write of a command in turn: then all of it is there, or nothing. */
+final class PowerTest {
+    private static final int OFF = AppletFirewall.OFF;
+    private static final int DONE = Terminal.DONE;
+    private static final Checks CHECKS = new Checks();
+
+    /** A command, sent to a card on which it can be done. */
+    private interface Command {
+        int sendTo(Terminal t);
+    }
+
+    public static void main(String[] args) {
+        wholeOrNothing("update", 1, t -> t.update(0, 61, 62, 63, 64));
+        wholeOrNothing("update of all", 1, t -> t.update(0, Terminal.row(100, 16)));
+        wholeOrNothing("change secret", 1, t -> t.changeSecret(70, 71));
+        wholeOrNothing("grant", 1, t -> t.grant(5, 3, 1, 2, 1));
+        wholeOrNothing("revoke", 1, t -> t.revoke(4));
+        wholeOrNothing("update shared", 2, t -> t.updateShared(4, 1, 81, 82));
+        changesInTransaction();
+        endingTransaction("commit", 0, t -> t.commit());
+        endingTransaction("abort", 12, t -> t.abort());
+        endingTransaction("select", 12, t -> t.select(2));
+        unblockCutOff();
+        verifyCutOff();
+        undoCutOffTwice();
+        CHECKS.end();
+    }
+
+    /** Applet 1 has data and has granted share 4 to applet 2; the given applet is logged in. */
+    private static Terminal prepared(int applet) {
+        Terminal t = Terminal.loggedIn(1);
+        t.update(0, Terminal.row(11, 16));
+        t.grant(4, 2, 3, 5, 1);
+        t.logIn(applet);
+        return t;
+    }
+
+    /** All that can be seen of the permanent memory; secrets are seen by trying one. */
+    private static String memoryText(Terminal t) {
+        StringBuilder text = new StringBuilder();
+        for (int applet = 1; applet < 4; applet++) {
+            text.append(t.dataText(applet)).append(t.card.tries(applet));
+        }
+        for (int share = 0; share < 8; share++) {
+            text.append(' ').append(t.card.share(share));
+        }
+        text.append(' ').append(t.card.pending());
+        t.select(1);
+        text.append(' ').append(t.verify(70, 71));
+        return text.toString();
+    }
+
+    private static void wholeOrNothing(String what, int applet, Command command) {
+        String before = memoryText(prepared(applet));
+        Terminal whole = prepared(applet);
+        int start = whole.card.writes();
+        CHECKS.due(what, command.sendTo(whole), DONE);
+        int needed = whole.card.writes() - start;
+        String after = memoryText(whole);
+        CHECKS.due(what + " changes something", before.equals(after), false);
+        for (int n = 0; n < needed; n++) {
+            Terminal t = prepared(applet);
+            t.card.tear(n);
+            CHECKS.due(what + " cut off at " + n, command.sendTo(t), OFF);
+            CHECKS.due(what + ": writes", t.card.writes(), start + n);
+            // A note counts from its third write on; each change has four writes.
+            CHECKS.due(what + ": notes at " + n, t.card.reset(), (n + 1) / 4);
+            CHECKS.due(what + ": the memory after " + n, memoryText(t), before);
+        }
+        Terminal spared = prepared(applet);
+        spared.card.tear(needed);
+        CHECKS.due(what + " not cut off", command.sendTo(spared), DONE);
+        CHECKS.due(what + ": nothing to undo", spared.card.reset(), 0);
+        // The fuse has burnt down to the next write, and the look at the memory writes too.
+        spared.card.tear(1000);
+        CHECKS.due(what + ": the memory", memoryText(spared), after);
+    }
+
+    private static void changesInTransaction() {
+        String before = prepared(1).dataText(1);
+        for (int n = 0; n < 12; n++) {
+            Terminal t = prepared(1);
+            t.begin();
+            t.update(2, 5, 6, 7, 8, 9);
+            t.card.tear(n);
+            CHECKS.due("second update cut off at " + n, t.update(4, 50, 60, 70), OFF);
+            CHECKS.due("its notes and those before", t.card.reset(), 5 + (n + 1) / 4);
+            CHECKS.due("data after " + n, t.dataText(1), before);
+        }
+    }
+
+    /** A transaction of twelve notes is ended; undoing is how many bytes its end puts back. */
+    private static void endingTransaction(String what, int undoing, Command end) {
+        String before = prepared(1).dataText(1);
+        for (int n = 0; n <= undoing + 1; n++) {
+            Terminal t = prepared(1);
+            t.begin();
+            t.update(0, Terminal.row(90, 10));
+            t.update(9, 1, 2);
+            String changed = t.dataText(1);
+            t.card.tear(n);
+            boolean spared = n == undoing + 1;
+            CHECKS.due(what + " with " + n + " writes", end.sendTo(t), spared ? DONE : OFF);
+            CHECKS.due(what + ": notes undone by reset", t.card.reset(), spared ? 0 : 12);
+            boolean kept = spared && undoing == 0;
+            CHECKS.due(what + ": data", t.dataText(1), kept ? changed : before);
+        }
+    }
+
+    private static void unblockCutOff() {
+        Terminal t = new Terminal();
+        t.select(2);
+        t.verify(1, 1);
+        t.logIn(0);
+        t.card.tear(0);
+        CHECKS.due("unblock cut off", t.unblock(2), OFF);
+        CHECKS.due("nothing to undo", t.card.reset(), 0);
+        CHECKS.due("tries stay", t.card.tries(2), 2);
+    }
+
+    private static void verifyCutOff() {
+        for (int n = 0; n < 2; n++) {
+            Terminal t = new Terminal();
+            t.select(2);
+            t.card.tear(n);
+            CHECKS.due("verify cut off at " + n, t.verify(0, 0), OFF);
+            t.card.reset();
+            CHECKS.due("tries", t.card.tries(2), 3 - n);
+            CHECKS.due("session", t.card.session(), AppletFirewall.NONE);
+        }
+        Terminal t = new Terminal();
+        t.select(2);
+        t.verify(5, 5);
+        t.verify(5, 5);
+        t.card.tear(1);
+        CHECKS.due("the last try is cut off", t.verify(0, 0), OFF);
+        t.card.reset();
+        t.select(2);
+        CHECKS.due("it is spent", t.verify(0, 0), 27011);
+    }
+
+    private static void undoCutOffTwice() {
+        Terminal t = prepared(1);
+        String before = t.dataText(1);
+        t.begin();
+        t.update(0, 1, 2, 3);
+        t.update(0, 4, 5, 6);
+        t.card.tear(4);
+        CHECKS.due("abort cut off", t.abort(), OFF);
+        t.card.tear(6);
+        CHECKS.due("reset cut off", t.card.reset(), OFF);
+        t.card.tear(2);
+        CHECKS.due("reset cut off again", t.card.reset(), OFF);
+        CHECKS.due("reset", t.card.reset(), 6);
+        CHECKS.due("all is back", t.dataText(1), before);
+        CHECKS.due("failures", t.card.failures(), 3);
+    }
+}
