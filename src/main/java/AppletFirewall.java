@@ -68,7 +68,11 @@ public final class AppletFirewall {
             return OFF;
         }
         answerLength = 0;
-        int status = carryOut();
+        Instruction asked = Instruction.withCode(input.instruction());
+        int status = admit(asked);
+        if (status == DONE) {
+            status = perform(asked);
+        }
         input.clear();
         if (status == OFF) {
             switchOff();
@@ -167,26 +171,18 @@ public final class AppletFirewall {
         input.clear();
     }
 
-    /** Answers the status of the input as a command; OFF if the power failed on the way. */
-    private int carryOut() {
-        int shape = input.shape();
-        if (shape == Input.BADLY_FORMED) {
+    /** DONE if nothing that is common to all instructions stands against this one. */
+    private int admit(Instruction asked) {
+        if (input.shape() == Input.BADLY_FORMED) {
             return WRONG_LENGTH;
         }
         if (input.cardClass() != CARD_CLASS) {
             return WRONG_CLASS;
         }
-        Instruction asked = Instruction.withCode(input.instruction());
-        if (asked == null) {
+        if (asked == Instruction.UNKNOWN) {
             return NO_SUCH_INSTRUCTION;
         }
-        int status = admit(asked, shape);
-        return status == DONE ? perform(asked) : status;
-    }
-
-    /** DONE if nothing that is common to all instructions stands against this one. */
-    private int admit(Instruction asked, int shape) {
-        if (!asked.takesForm(shape, input.lc())) {
+        if (!asked.takesForm(input.shape(), input.lc())) {
             return WRONG_LENGTH;
         }
         if (!asked.takesParameters(input.p1(), input.p2())) {
@@ -201,6 +197,7 @@ public final class AppletFirewall {
         return DONE;
     }
 
+    /** Answers the status; OFF if the power failed on the way. */
     private int perform(Instruction asked) {
         switch (asked) {
             case SELECT:
@@ -327,7 +324,7 @@ public final class AppletFirewall {
             return WRONG_GRANT;
         }
         int share = input.p1();
-        if (isInUse(share)) {
+        if (ownerOf(share) != NONE) {
             return SHARE_IN_USE;
         }
         grantRow[0] = 1 + APPLETS * selected + client;
@@ -400,16 +397,16 @@ public final class AppletFirewall {
         return powered ? DONE : OFF;
     }
 
-    private boolean isInUse(int share) {
-        return shareByte(share, 0) != 0;
-    }
-
+    /** NONE if the share is not in use. */
     private int ownerOf(int share) {
-        return isInUse(share) ? (shareByte(share, 0) - 1) / APPLETS : NONE;
+        int first = shareByte(share, 0);
+        return first == 0 ? NONE : (first - 1) / APPLETS;
     }
 
+    /** NONE if the share is not in use. */
     private int clientOf(int share) {
-        return isInUse(share) ? (shareByte(share, 0) - 1) % APPLETS : NONE;
+        int first = shareByte(share, 0);
+        return first == 0 ? NONE : (first - 1) % APPLETS;
     }
 
     private int shareByte(int share, int i) {
@@ -453,7 +450,9 @@ public final class AppletFirewall {
         GRANT(226, Input.WITH_LC, 4, 7, 0, true),
         REVOKE(228, Input.PLAIN, Input.ANY_LC, 7, 0, true),
         READ_SHARED(178, Input.WITH_LE, Input.ANY_LC, 7, 255, true),
-        UPDATE_SHARED(220, Input.WITH_LC, Input.ANY_LC, 7, 255, true);
+        UPDATE_SHARED(220, Input.WITH_LC, Input.ANY_LC, 7, 255, true),
+        /** Stands for all codes that are none; its own is no byte. */
+        UNKNOWN(-1, Input.BADLY_FORMED, Input.ANY_LC, 0, 0, true);
 
         private static final Instruction[] ALL = values();
 
@@ -473,14 +472,13 @@ public final class AppletFirewall {
             this.guarded = guarded;
         }
 
-        /** Null if there is no such instruction. */
         static Instruction withCode(int code) {
             for (int i = 0; i < ALL.length; i++) {
                 if (ALL[i].code == code) {
                     return ALL[i];
                 }
             }
-            return null;
+            return UNKNOWN;
         }
 
         boolean takesForm(int givenShape, int givenLc) {
@@ -557,6 +555,8 @@ public final class AppletFirewall {
             return count == PAYLOAD + lc() + 1 ? WITH_BOTH : BADLY_FORMED;
         }
 
+        // What follows reads single bytes, and means something only in the shapes that have them.
+
         int cardClass() {
             return bytes[0];
         }
@@ -573,12 +573,10 @@ public final class AppletFirewall {
             return bytes[3];
         }
 
-        /** Means something only in the shapes that have an Lc. */
         int lc() {
             return bytes[HEADER];
         }
 
-        /** Means something only in the shape that has an Le and no Lc. */
         int le() {
             return bytes[HEADER] == 0 ? 256 : bytes[HEADER];
         }

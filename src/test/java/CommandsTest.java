@@ -40,7 +40,7 @@ final class CommandsTest {
         Terminal t = new Terminal();
         int[][] inputs = {{}, {128}, {128, 164}, {128, 164, 0}, {128, 164, 0, 0, 0, 1}, {128, 164, 0, 0, 0, 0},
             {128, 164, 0, 0, 2, 1}, {128, 164, 0, 0, 1, 1, 1, 1}, {128, 164, 0, 0, 255, 1}, {0, 0, 0},
-            {0, 164, 0, 0, 3, 1}, {128, 1, 0, 0, 3, 1}};
+            {0, 164, 0, 0, 3, 1}, {0, 164, 0, 0, 0, 1}, {128, 1, 0, 0, 3, 1}, {128, 1, 0, 0, 0, 1}};
         for (int[] input : inputs) {
             CHECKS.due("badly formed, " + input.length + " bytes", t.send(input), 26368);
         }
@@ -386,7 +386,8 @@ final class CommandsTest {
         int[][] wrong = {{1, 0, 4, 0}, {4, 0, 4, 0}, {255, 0, 4, 0}, {0, 0, 0, 0}, {0, 16, 0, 0}, {0, 0, 17, 0},
             {0, 16, 1, 0}, {0, 1, 16, 0}, {0, 255, 1, 0}, {0, 1, 255, 0}, {0, 0, 4, 2}, {0, 0, 4, 255}};
         for (int[] w : wrong) {
-            CHECKS.due("grant " + w[0] + " " + w[1] + " " + w[2] + " " + w[3], t.grant(2, w[0], w[1], w[2], w[3]), 27264);
+            String what = "grant " + w[0] + " " + w[1] + " " + w[2] + " " + w[3];
+            CHECKS.due(what, t.grant(2, w[0], w[1], w[2], w[3]), 27264);
         }
         CHECKS.due("no write", t.card.writes(), 2);
         CHECKS.due("grant all", t.grant(2, 0, 0, 16, 1), DONE);

@@ -173,7 +173,8 @@ final class Model {
             case 32:
                 return first(lc(payload, 2), p1 == 0 && p2 == 0, false, true, () -> verify(payload));
             case 36:
-                return first(lc(payload, 2), p1 == 0 && p2 == 0, false, false, () -> store(secrets[selected], 0, payload));
+                return first(lc(payload, 2), p1 == 0 && p2 == 0, false, false,
+                    () -> store(secrets[selected], 0, payload));
             case 44:
                 return first(shape1, p1 < 4 && p2 == 0, false, false, () -> unblock(p1));
             case 176:
@@ -289,7 +290,8 @@ final class Model {
 
     private int grant(Cell[] share, List<Integer> given) {
         int client = given.get(0);
-        if (client > 3 || client == selected || given.get(2) == 0 || given.get(1) + given.get(2) > 16 || given.get(3) > 1) {
+        int end = given.get(1) + given.get(2);
+        if (client > 3 || client == selected || given.get(2) == 0 || end > 16 || given.get(3) > 1) {
             return 27264;
         }
         if (share[0].value != 0) {

@@ -90,26 +90,26 @@ final class ModelTest {
     private int[] plausible() {
         int session = model.session();
         if (session < 0 || random.nextInt(30) == 0) {
-            return withPayload(164, 0, 0, random.nextInt(20) == 0 ? 4 : random.nextInt(4));
+            return Terminal.withPayload(164, 0, 0, random.nextInt(20) == 0 ? 4 : random.nextInt(4));
         }
         int[] secret = model.secretOfSelected();
         if ((session & 8) == 0 && random.nextInt(3) > 0 || random.nextInt(30) == 0) {
             boolean right = random.nextInt(4) > 0;
-            return withPayload(32, 0, 0, secret[0], right ? secret[1] : random.nextInt(256));
+            return Terminal.withPayload(32, 0, 0, secret[0], right ? secret[1] : random.nextInt(256));
         }
         int offset = random.nextInt(random.nextBoolean() ? 4 : 18);
         int share = random.nextInt(random.nextBoolean() ? 2 : 8);
         int le = random.nextInt(random.nextInt(3) == 0 ? 18 : 5);
         switch (random.nextInt(14)) {
             case 0:
-                return withPayload(36, 0, 0, random.nextInt(256), random.nextInt(256));
+                return Terminal.withPayload(36, 0, 0, random.nextInt(256), random.nextInt(256));
             case 1:
                 return new int[] {128, 44, random.nextInt(5), 0};
             case 2:
                 return new int[] {128, 176, 0, offset, le};
             case 3:
             case 4:
-                return withPayload(214, 0, offset, someBytes());
+                return Terminal.withPayload(214, 0, offset, someBytes());
             case 5:
             case 6:
                 return new int[] {128, 112, 0, 0};
@@ -117,13 +117,14 @@ final class ModelTest {
                 return new int[] {128, 114, random.nextInt(3), 0};
             case 8:
             case 9:
-                return withPayload(226, share, 0, random.nextInt(4), random.nextInt(8), random.nextInt(12), random.nextInt(5) * 2 / 4);
+                return Terminal.withPayload(226, share, 0,
+                    random.nextInt(4), random.nextInt(8), random.nextInt(12), random.nextInt(5) / 2);
             case 10:
                 return new int[] {128, 228, share, 0};
             case 11:
                 return new int[] {128, 178, share, offset, le};
             default:
-                return withPayload(220, share, offset, someBytes());
+                return Terminal.withPayload(220, share, offset, someBytes());
         }
     }
 
@@ -132,17 +133,6 @@ final class ModelTest {
         for (int i = 0; i < bytes.length; i++) {
             bytes[i] = random.nextInt(256);
         }
-        return bytes;
-    }
-
-    private static int[] withPayload(int code, int p1, int p2, int... payload) {
-        int[] bytes = new int[5 + payload.length];
-        bytes[0] = 128;
-        bytes[1] = code;
-        bytes[2] = p1;
-        bytes[3] = p2;
-        bytes[4] = payload.length;
-        System.arraycopy(payload, 0, bytes, 5, payload.length);
         return bytes;
     }
 

@@ -31,15 +31,16 @@ final class Terminal {
         return card.run();
     }
 
-    private int sendWithPayload(int instruction, int p1, int p2, int... payload) {
+    /** A command of shape 3. */
+    static int[] withPayload(int code, int p1, int p2, int... payload) {
         int[] bytes = new int[5 + payload.length];
         bytes[0] = 128;
-        bytes[1] = instruction;
+        bytes[1] = code;
         bytes[2] = p1;
         bytes[3] = p2;
         bytes[4] = payload.length;
         System.arraycopy(payload, 0, bytes, 5, payload.length);
-        return send(bytes);
+        return bytes;
     }
 
     int logIn(int applet) {
@@ -48,15 +49,15 @@ final class Terminal {
     }
 
     int select(int applet) {
-        return sendWithPayload(164, 0, 0, applet);
+        return send(withPayload(164, 0, 0, applet));
     }
 
     int verify(int a, int b) {
-        return sendWithPayload(32, 0, 0, a, b);
+        return send(withPayload(32, 0, 0, a, b));
     }
 
     int changeSecret(int a, int b) {
-        return sendWithPayload(36, 0, 0, a, b);
+        return send(withPayload(36, 0, 0, a, b));
     }
 
     int unblock(int applet) {
@@ -68,7 +69,7 @@ final class Terminal {
     }
 
     int update(int offset, int... bytes) {
-        return sendWithPayload(214, 0, offset, bytes);
+        return send(withPayload(214, 0, offset, bytes));
     }
 
     int begin() {
@@ -84,7 +85,7 @@ final class Terminal {
     }
 
     int grant(int share, int client, int offset, int length, int mode) {
-        return sendWithPayload(226, share, 0, client, offset, length, mode);
+        return send(withPayload(226, share, 0, client, offset, length, mode));
     }
 
     int revoke(int share) {
@@ -96,7 +97,7 @@ final class Terminal {
     }
 
     int updateShared(int share, int offset, int... bytes) {
-        return sendWithPayload(220, share, offset, bytes);
+        return send(withPayload(220, share, offset, bytes));
     }
 
     String responseText() {
