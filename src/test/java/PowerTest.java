@@ -4,11 +4,6 @@ final class PowerTest {
     private static final int DONE = Terminal.DONE;
     private static final Checks CHECKS = new Checks();
 
-    /** A command, sent to a card on which it can be done. */
-    private interface Command {
-        int sendTo(Terminal t);
-    }
-
     public static void main(String[] args) {
         wholeOrNothing("update", 1, t -> t.update(0, 61, 62, 63, 64));
         wholeOrNothing("update of all", 1, t -> t.update(0, Terminal.row(100, 16)));
@@ -20,7 +15,6 @@ final class PowerTest {
         endingTransaction("commit", 0, t -> t.commit());
         endingTransaction("abort", 12, t -> t.abort());
         endingTransaction("select", 12, t -> t.select(2));
-        unblockCutOff();
         verifyCutOff();
         undoCutOffTwice();
         CHECKS.end();
@@ -35,19 +29,11 @@ final class PowerTest {
         return t;
     }
 
-    /** All that can be seen of the permanent memory; secrets are seen by trying one. */
+    /** All that can be seen of the permanent memory; the secret of applet 1 is seen by trying one. */
     private static String memoryText(Terminal t) {
-        StringBuilder text = new StringBuilder();
-        for (int applet = 1; applet < 4; applet++) {
-            text.append(t.dataText(applet)).append(t.card.tries(applet));
-        }
-        for (int share = 0; share < 8; share++) {
-            text.append(' ').append(t.card.share(share));
-        }
-        text.append(' ').append(t.card.pending());
+        String seen = t.memoryText();
         t.select(1);
-        text.append(' ').append(t.verify(70, 71));
-        return text.toString();
+        return seen + " verify " + t.verify(70, 71);
     }
 
     private static void wholeOrNothing(String what, int applet, Command command) {
@@ -107,36 +93,33 @@ final class PowerTest {
         }
     }
 
-    private static void unblockCutOff() {
-        Terminal t = new Terminal();
-        t.select(2);
-        t.verify(1, 1);
-        t.logIn(0);
-        t.card.tear(0);
-        CHECKS.due("unblock cut off", t.unblock(2), OFF);
-        CHECKS.due("nothing to undo", t.card.reset(), 0);
-        CHECKS.due("tries stay", t.card.tries(2), 2);
-    }
-
     private static void verifyCutOff() {
-        for (int n = 0; n < 2; n++) {
+        for (int n = 0; n <= 2; n++) {
             Terminal t = new Terminal();
             t.select(2);
             t.card.tear(n);
-            CHECKS.due("verify cut off at " + n, t.verify(0, 0), OFF);
+            CHECKS.due("right, cut off at " + n, t.verify(0, 0), n < 2 ? OFF : DONE);
+            CHECKS.due("session", t.card.session(), n < 2 ? OFF : 10);
+            t.card.reset();
+            CHECKS.due("tries", t.card.tries(2), n == 1 ? 2 : 3);
+        }
+        for (int n = 0; n <= 1; n++) {
+            Terminal t = new Terminal();
+            t.select(2);
+            t.card.tear(n);
+            CHECKS.due("wrong, cut off at " + n, t.verify(5, 5), n < 1 ? OFF : 25538);
             t.card.reset();
             CHECKS.due("tries", t.card.tries(2), 3 - n);
-            CHECKS.due("session", t.card.session(), AppletFirewall.NONE);
         }
-        Terminal t = new Terminal();
-        t.select(2);
-        t.verify(5, 5);
-        t.verify(5, 5);
-        t.card.tear(1);
-        CHECKS.due("the last try is cut off", t.verify(0, 0), OFF);
-        t.card.reset();
-        t.select(2);
-        CHECKS.due("it is spent", t.verify(0, 0), 27011);
+        Terminal last = new Terminal();
+        last.select(2);
+        last.verify(5, 5);
+        last.verify(5, 5);
+        last.card.tear(1);
+        CHECKS.due("the last try, cut off", last.verify(0, 0), OFF);
+        last.card.reset();
+        last.select(2);
+        CHECKS.due("it is spent", last.verify(0, 0), 27011);
     }
 
     private static void undoCutOffTwice() {

@@ -13,6 +13,30 @@ final class Terminal {
         return t;
     }
 
+    /** A card whose power failed when an applet was verified and a response was there; nothing is pending. */
+    static Terminal cutOff() {
+        Terminal t = loggedIn(0);
+        t.read(0, 3);
+        t.card.tear(0);
+        t.verify(0, 0);
+        return t;
+    }
+
+    /** Applet 0 is logged in and has a transaction open with so many notes, at most 20. */
+    static Terminal withNotes(int notes) {
+        Terminal t = loggedIn(0);
+        t.begin();
+        t.addNotes(notes);
+        return t;
+    }
+
+    /** Changes so many of the selected applet's data, at most 32. */
+    void addNotes(int notes) {
+        for (int left = notes; left > 0; left -= 16) {
+            update(0, row(100 + left, Math.min(left, 16)));
+        }
+    }
+
     boolean putAll(int... bytes) {
         boolean taken = true;
         for (int start = 0; start < bytes.length; start += 8) {
@@ -114,6 +138,24 @@ final class Terminal {
             bytes[i] = card.data(applet, i);
         }
         return Arrays.toString(bytes);
+    }
+
+    /** All that can be seen of the permanent memory. */
+    String memoryText() {
+        StringBuilder text = new StringBuilder();
+        for (int applet = 0; applet < 4; applet++) {
+            text.append(dataText(applet)).append(" tries ").append(card.tries(applet)).append(' ');
+        }
+        for (int share = 0; share < 8; share++) {
+            text.append(" share ").append(card.share(share));
+        }
+        return text.append(" pending ").append(card.pending()).toString();
+    }
+
+    /** All that can be seen of the card, but for input and response; takes 80 calls. */
+    String stateText() {
+        return memoryText() + " session " + card.session() + " writes " + card.writes()
+            + " failures " + card.failures();
     }
 
     /** The bytes first, first + 1 and so on, n of them. */
