@@ -6,7 +6,7 @@ import java.util.Arrays;
 import java.util.Set;
 import java.util.TreeSet;
 
-/** The class shows the document's face and nothing beside it. */
+/** The class shows the document's face and nothing beside it, by rule 1 of LANGUAGE.md. */
 final class FaceTest {
     private static final Set<String> FACE = new TreeSet<>(Arrays.asList(
         "boolean put(long, int)", "int run()", "int waiting()", "int length()", "int response(int)",
@@ -25,7 +25,25 @@ final class FaceTest {
         checks.due("the constructors", constructors.length, 1);
         checks.due("the constructor's parameters", constructors[0].getParameterCount(), 0);
         checks.due("the constructor's modifiers", constructors[0].getModifiers(), Modifier.PUBLIC);
+        for (Class<?> inside : card.getDeclaredClasses()) {
+            int modifiers = inside.getModifiers();
+            checks.due(inside + " is static", Modifier.isStatic(modifiers), true);
+            checks.due(inside + " is not shown", modifiers & (Modifier.PUBLIC | Modifier.PROTECTED), 0);
+        }
+        checks.due("private methods that bear the name of a public one", namesakes(card).toString(), "[]");
         checks.end();
+    }
+
+    private static Set<String> namesakes(Class<?> card) {
+        Set<String> names = new TreeSet<>();
+        for (Method m : card.getDeclaredMethods()) {
+            for (Method shown : card.getMethods()) {
+                if (Modifier.isPrivate(m.getModifiers()) && m.getName().equals(shown.getName())) {
+                    names.add(m.getName());
+                }
+            }
+        }
+        return names;
     }
 
     private static Set<String> shownMethods(Class<?> card) {
